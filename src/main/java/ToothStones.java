@@ -688,8 +688,8 @@ public final class ToothStones {
 
         /** How many TEETH the last BACK has. */
         private int lastTeeth() {
-            int last = stoneInTrain(trainLength - 1);
-            return teethOf(last, backOf(last));
+            int last = at(train, trainLength - 1);
+            return at(teeth, 2 * last + 1 - at(fronts, last));
         }
 
         private static boolean areNear(int someTeeth, int otherTeeth) {
@@ -766,7 +766,7 @@ public final class ToothStones {
 
         /** Which way a BACK goes (1 forward, -1 backward) if its FRONT goes a way. */
         private int backWay(int stone, int frontWay) {
-            return kindOf(stone) == STIFF ? frontWay : -frontWay;
+            return at(kinds, stone) == STIFF ? frontWay : -frontWay;
         }
 
         /** Which way the BACK at a place in THE TRAIN goes if the first FRONT goes forward. */
@@ -785,24 +785,22 @@ public final class ToothStones {
 
         /** What locks a turn of the first FRONT a way: 0 nothing, 1 an ODD RING, else 2 and the last STONE that does. */
         int lockOf(int way) {
-            if (isRing && lastBackWay() > 0) {
-                return ODD_RING;
-            }
             int lock = 0;
             int frontWay = way;
+            int backWay = 0;
             for (int i = 0; i < trainLength; i++) {
-                int stone = stoneInTrain(i);
-                int backWay = backWay(stone, frontWay);
+                int stone = at(train, i);
+                backWay = backWay(stone, frontWay);
                 if (hasPawl(stone) && (frontWay < 0 || backWay < 0)) {
                     lock = LOCKING_STONE + stone;
                 }
                 frontWay = -backWay;
             }
-            return lock;
+            return isRing && backWay == way ? ODD_RING : lock;
         }
 
         private boolean hasPawl(int stone) {
-            int kind = kindOf(stone);
+            int kind = at(kinds, stone);
             return kind == PAWLED || kind == HEAVY;
         }
 
