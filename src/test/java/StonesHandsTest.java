@@ -210,6 +210,15 @@ public final class StonesHandsTest {
         x.lay(0, 0);
         DUE.is("a LAY that SCORES", x.lay(1, 0), 2);
         x.lay(2, 0);
+        x.take(2);
+        x.mark(0, 0, 1);
+        x.mark(0, 1, 2);
+        x.mark(1, 0, 0);
+        x.mark(1, 1, 0);
+        x.deal(1, 0);
+        DUE.is("a LAY that SCORES for the other HAND", x.lay(1, 0), 2);
+        x.mark(1, 1, 1);
+        x.lay(2, 0);
         x.shut(true);
         x.image();
         DUE.is("a FAULT", Due.read(x, "33,3"), -24);
@@ -225,6 +234,7 @@ public final class StonesHandsTest {
                 DUE.is("told(" + stone + ", " + what + ") then", x.told(stone, what), ToothStones.NONE);
             }
         }
+        DUE.is("MARKS are 0 again", Due.allMarks(x), 0);
         DUE.is("THE DRAW stays", x.seed(1), 77);
         DUE.is("THE IMAGE stays", x.restore(), 1);
         DUE.is("as it was in the IMAGE", x.count(1), 3);
