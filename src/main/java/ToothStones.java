@@ -920,7 +920,7 @@ public final class ToothStones {
     private static final class Tape {
         private final int[] bytes = new int[MOST_BYTES];
         private int length;
-        // the place that is read next: where it stands when something can't be read is the FAULT's
+        // the place on THE TAPE that is read next: where it stands when something can't be read is the FAULT's
         private int place;
 
         int length() {
@@ -938,26 +938,20 @@ public final class ToothStones {
 
         /** Adds the STONES of the text to a table of none: how many, or the FAULT. */
         int readTo(Table table) {
-            dropBlanks();
-            place = 0;
+            place = -1;
+            stepOn();
             boolean isRead = readStone(table);
-            while (isRead && place < length && table.stoneCount() < MOST_STONES_IN_TEXT) {
+            for (int stone = 1; stone < MOST_STONES_IN_TEXT && isRead && place < length; stone++) {
                 isRead = readSign(',') && readStone(table);
             }
             return isRead && place == length ? table.stoneCount() : FIRST_FAULT - place;
         }
 
-        /** Blanks can stand anywhere and do not count for places, so nothing is lost without them. */
-        private void dropBlanks() {
-            int left = 0;
-            for (int i = 0; i < length; i++) {
-                int b = at(bytes, i);
-                if (b != ' ') {
-                    put(bytes, left, b);
-                    left++;
-                }
-            }
-            length = left;
+        /** To the next byte that is no blank: blanks can stand anywhere, but as bytes of THE TAPE they have places. */
+        private void stepOn() {
+            do {
+                place++;
+            } while (place < length && at(bytes, place) == ' ');
         }
 
         private boolean readStone(Table table) {
@@ -989,7 +983,7 @@ public final class ToothStones {
             if (!isWithin(digit, least, most)) {
                 return NONE;
             }
-            place++;
+            stepOn();
             return digit;
         }
 
@@ -997,7 +991,7 @@ public final class ToothStones {
             if (place >= length || at(bytes, place) != sign) {
                 return false;
             }
-            place++;
+            stepOn();
             return true;
         }
     }

@@ -116,7 +116,7 @@ public final class ModelTest {
                 text.append('@').append(random.nextInt(first)).append(random.nextInt(second));
             }
             if (random.nextInt(6) == 0) {
-                text.insert(random.nextInt(text.length()), ' ');
+                text.insert(random.nextInt(text.length() + 1), ' ');
             }
         }
         int faults = Math.max(0, random.nextInt(5) - 2);
@@ -127,6 +127,10 @@ public final class ModelTest {
                 case 1 -> text.deleteCharAt(at);
                 default -> text.setLength(at);
             }
+        }
+        int blanks = Math.max(0, random.nextInt(6) - 3);
+        for (int i = 0; i < blanks; i++) {
+            text.insert(random.nextBoolean() ? text.length() : random.nextInt(text.length() + 1), ' ');
         }
         for (int i = 0; i < text.length(); i += 8) {
             String part = text.substring(i, Math.min(text.length(), i + 8));

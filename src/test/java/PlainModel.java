@@ -144,11 +144,12 @@ final class PlainModel {
     }
 
     int stones() {
-        String text = tape.replace(" ", "");
+        String typed = tape;
+        String text = typed.replace(" ", "");
         tape = "";
         if (!TEXT.matcher(text).matches()) {
             int good = 0;
-            while (good < text.length() && canBegin(text.substring(0, good + 1))) {
+            while (good < typed.length() && canBegin(typed.substring(0, good + 1).replace(" ", ""))) {
                 good++;
             }
             return -20 - good;

@@ -11,6 +11,7 @@ public final class StonesHandsTest {
         promise6Type();
         promise7Stones();
         promise7Faults();
+        promise7FaultsAmongBlanks();
         promise7Replaces();
         promise8Count();
         DUE.end();
@@ -130,7 +131,7 @@ public final class StonesHandsTest {
         DUE.is("bytes above the n lowest", x.type(0x00ff_0033_3334L, 2), 2);
         DUE.is("the bytes that came", x.stones(), 1);
         DUE.is("32 and 126", x.type(0x207e, 2), 2);
-        DUE.is("126 is no STONE", x.stones(), -20);
+        DUE.is("126 is no STONE", x.stones(), -21);
         for (int i = 1; i <= 9; i++) {
             DUE.is("8 bytes more", x.type(Due.word("34@00,  "), 8), 8 * i);
         }
@@ -152,6 +153,7 @@ public final class StonesHandsTest {
         DUE.is("the longest text", Due.read(new ToothStones(),
                 "33p@00,44s@11,55h@22,66p@33,77s@44,88h@55,99p@66,99s@88"), 8);
         DUE.is("blanks anywhere", Due.read(new ToothStones(), "  3 4  h @ 1 2 , 5 6   "), 2);
+        DUE.is("blanks behind 8 STONES", Due.read(new ToothStones(), "33,44,55,66,77,88,99,39   "), 8);
         ToothStones x = Due.of("34@23,55p,66s@05,79h");
         int[][] due = {{0, 3, 4, 2, 3}, {1, 5, 5, 0, 0}, {2, 6, 6, 0, 5}, {3, 7, 9, 0, 0}};
         for (int stone = 0; stone < due.length; stone++) {
@@ -163,7 +165,6 @@ public final class StonesHandsTest {
 
     private static void promise7Faults() {
         fault("", 0);
-        fault("   ", 0);
         fault("2", 0);
         fault(",33", 0);
         fault("p33", 0);
@@ -189,9 +190,27 @@ public final class StonesHandsTest {
         fault("33,33,33,33,33,33,33,33,", 23);
         fault("33,33,33,33,33,33,33,33,33", 23);
         fault("33,33,33,33,33,33,33,33x", 23);
-        fault(" 3 3 , 3 a", 4);
-        fault(" 3 3 , 3 ", 4);
-        fault("3   x", 1);
+    }
+
+    private static void promise7FaultsAmongBlanks() {
+        fault(" ", 1);
+        fault("   ", 3);
+        fault(" x", 1);
+        fault(" ,33", 1);
+        fault("3 ", 2);
+        fault(" 3", 2);
+        fault("3   x", 4);
+        fault("3 2", 2);
+        fault("33 4", 3);
+        fault("33 p s", 5);
+        fault("33 @ 3", 5);
+        fault("33 @  2 ", 8);
+        fault("33, ", 4);
+        fault(" 3 3 , 3 a", 9);
+        fault(" 3 3 , 3 ", 9);
+        fault("33,33,33,33,33,33,33,33  ,  33", 25);
+        fault("                                                                               3", 80);
+        fault("                                                                               x", 79);
     }
 
     private static void fault(String text, int place) {
