@@ -50,13 +50,21 @@ public final class ModelTest {
         return rare == 1 ? n : rare == 2 ? -1 : random.nextInt(n);
     }
 
+    /** Mostly the number of a STONE that there is. */
+    private int stone() {
+        return random.nextInt(3) == 0 ? some(13) : some(Math.max(1, m.count(0)));
+    }
+
     private void begin() {
-        int stones = random.nextInt(9);
+        int stones = random.nextInt(13);
         for (int i = 0; i < stones; i++) {
             int kind = kind(), first = teeth(), second = teeth();
             same("stone", x.stone(kind, first, second), m.stone(kind, first, second));
             int hand = random.nextInt(3) - 1;
             same("deal", x.deal(i, hand), m.deal(i, hand));
+        }
+        for (int sheet = 0; sheet < 3 && random.nextInt(4) != 0; sheet++) {
+            same("sheet", x.sheet(sheet, sheet, 24), m.sheet(sheet, sheet, 24));
         }
     }
 
@@ -69,16 +77,16 @@ public final class ModelTest {
         switch (random.nextInt(13)) {
             case 0 -> stoneCall();
             case 1 -> {
-                int stone = some(9), wheel = some(2), v = random.nextBoolean() ? 0 : some(5);
+                int stone = stone(), wheel = some(2), v = random.nextBoolean() ? 0 : some(5);
                 same("mark(" + stone + ", " + wheel + ", " + v + ")", x.mark(stone, wheel, v), m.mark(stone, wheel, v));
             }
             case 2 -> {
-                int stone = some(9), hand = some(3) - 1;
+                int stone = stone(), hand = some(3) - 1;
                 same("deal(" + stone + ", " + hand + ")", x.deal(stone, hand), m.deal(stone, hand));
             }
             case 3 -> text();
             case 4, 5 -> {
-                int stone = some(9), front = some(2);
+                int stone = stone(), front = some(2);
                 same("may(" + stone + ", " + front + ")", x.may(stone, front), m.may(stone, front));
                 same("lay(" + stone + ", " + front + ")", x.lay(stone, front), m.lay(stone, front));
             }
@@ -98,7 +106,7 @@ public final class ModelTest {
         if (random.nextInt(3) == 0) {
             same("stone(" + kind + ", " + first + ", " + second + ")", x.stone(kind, first, second), m.stone(kind, first, second));
         }
-        int stone = some(10), what = some(8);
+        int stone = stone(), what = some(8);
         same("told(" + stone + ", " + what + ")", x.told(stone, what), m.told(stone, what));
         same("count(" + what + ")", x.count(what), m.count(what));
     }
@@ -159,7 +167,7 @@ public final class ModelTest {
             case 1 -> same("around()", x.around(), m.around());
             case 2 -> same("up()", x.up(), m.up());
             default -> {
-                int stone = some(9), mark = some(5);
+                int stone = stone(), mark = some(5);
                 same("point(" + stone + ", " + mark + ")", x.point(stone, mark), m.point(stone, mark));
             }
         }
@@ -212,31 +220,41 @@ public final class ModelTest {
     private void judge(int sheet, int lane, int from) {
         int n = 1 + some(6);
         for (int i = 0; i < 2 * n && i < 24 && from >= 0 && from < 24; i++) {
-            int v = i % 2 == 0 ? some(8) : some(2);
+            int v = i % 2 == 0 ? some(Math.max(1, m.count(0))) : some(2);
             same("item for judged", x.item(sheet, lane, from + i, v), m.item(sheet, lane, from + i, v));
         }
         same("judged(" + sheet + ", " + lane + ", " + from + ", " + n + ")",
                 x.judged(sheet, lane, from, n), m.judged(sheet, lane, from, n));
     }
 
+    /** Two to five STONES, but of few that there are fewer. */
+    private int someSet() {
+        int set = 0;
+        int size = 2 + random.nextInt(4);
+        for (int i = 0; i < size; i++) {
+            set |= 1 << random.nextInt(Math.max(1, m.count(0)));
+        }
+        return set;
+    }
+
     /** MARKS that some row brings: STONES are laid in some row, told to the SHEET, and all is restored. */
     private void order(int sheet, int lane, int from) {
-        int set = random.nextInt(6) == 0 ? some(4096) : random.nextInt(64);
+        int set = random.nextInt(6) == 0 ? some(4096) : someSet();
         if (random.nextBoolean()) {
             same("image() for orders", x.image(), m.image());
             same("shut(false) for orders", x.shut(false), m.shut(false));
             same("take for orders", x.take(Math.max(1, x.count(1))), m.take(Math.max(1, m.count(1))));
-            int first = random.nextInt(8);
+            int first = random.nextInt(12);
             int told = 0;
-            for (int i = 0; i < 8; i++) {
-                int stone = (first + i * 3) % 8;
+            for (int i = 0; i < 12; i++) {
+                int stone = (first + i * 5) % 12;
                 if ((set >> stone & 1) == 1 && told < 5) {
                     same("lay for orders", x.lay(stone, 0), m.lay(stone, 0));
                     told++;
                 }
             }
             int item = from;
-            for (int stone = 0; stone < 8; stone++) {
+            for (int stone = 0; stone < 12; stone++) {
                 for (int wheel = 0; wheel < 2 && (set >> stone & 1) == 1; wheel++) {
                     int v = m.told(stone, 3 + wheel);
                     same("item for orders", x.item(sheet, lane, item, v), m.item(sheet, lane, item, v));
